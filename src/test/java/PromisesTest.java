@@ -18,6 +18,7 @@ public final class PromisesTest {
         modulusEdges();
         prime();
         primeAtHighCounters();
+        primeAfterPseudoprimes();
         add();
         addRefusals();
         remove();
@@ -39,6 +40,7 @@ public final class PromisesTest {
         advanceOfAnotherWitness();
         advanceRefusals();
         exclude();
+        excludeWithOtherModuli();
         excludeRefusals();
         checkExclude();
         noModulusComesBeforeBad();
@@ -212,6 +214,21 @@ public final class PromisesTest {
         for (int i = 0; i < serials.length; i++) {
             due("the model's counter of " + serials[i], Model.counterOf(serials[i]), counters[i]);
             due("prime(" + serials[i] + ")", x.prime(serials[i]), Model.primeOf(serials[i]));
+        }
+    }
+
+    /**
+     * Serials, found by search, with a composite before their prime that passes for a prime in a weaker test:
+     * the strong tests to two of the bases 2, 7 and 61, or to one of them, or Fermat's test to all three.
+     */
+    private static void primeAfterPseudoprimes() {
+        PartsAccumulator x = new PartsAccumulator();
+        long[] serials = {
+            7857843, 7926691, 7245177, 9452098, 13440921, 15608037, 16467515, 12649901, 17532139, 21521927,
+            290781, 357388, 37627, 59155, 22933, 117853, 382481, 533212, 537559, 1043477
+        };
+        for (long s : serials) {
+            due("prime(" + s + ")", x.prime(s), Model.primeOf(s));
         }
     }
 
@@ -649,6 +666,26 @@ public final class PromisesTest {
         due("exclude(" + serial + ")", x.exclude(serial), a.intValueExact());
         dueHand("after exclude(" + serial + ")", x, powerOfThree(c).modInverse(N), a.intValueExact());
         due("checkExclude(" + serial + ", NOW)", x.checkExclude(serial, x.size(2)), 1);
+    }
+
+    /** The inverse modulo N, where N leaves 1 and where it leaves 2 over 3, at both ends of its range. */
+    private static void excludeWithOtherModuli() {
+        BigInteger[] moduli = {
+            ONE.shiftLeft(100).add(ONE), ONE.shiftLeft(100).add(THREE), ONE.shiftLeft(128).subtract(THREE),
+            ONE.shiftLeft(128).subtract(BigInteger.valueOf(5)), primeOf(7).multiply(ONE.shiftLeft(80).add(BigInteger.valueOf(7)))
+        };
+        for (BigInteger n : moduli) {
+            PartsAccumulator x = withModulus(n);
+            Model model = new Model();
+            model.modulus(Model.word(n, true), Model.word(n, false));
+            for (long s = 3; s < 7; s++) {
+                due("add(" + s + ")", x.add(s), model.add(s));
+            }
+            due("close()", x.close(), model.close());
+            due("exclude(7) modulo " + n, x.exclude(7), model.exclude(7));
+            dueHand("after exclude(7) modulo " + n, x, model.hand, model.factor);
+            due("checkExclude(7, 1) modulo " + n, x.checkExclude(7, 1), 1);
+        }
     }
 
     private static void excludeRefusals() {
