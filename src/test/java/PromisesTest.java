@@ -4,7 +4,9 @@ import java.math.BigInteger;
 public final class PromisesTest {
     private static final int NONE = -1, BAD = -2, PRESENT = -3, ABSENT = -4, CLASH = -5, FULL = -6, WRONG = -7;
     private static final long LAST_SERIAL = (1L << 40) - 1;
-    private static final long[] NO_SERIALS = {-1, LAST_SERIAL + 1, Long.MIN_VALUE, Long.MAX_VALUE};
+    /** Found by search: none of its 256 candidates is a prime. */
+    private static final long WITHOUT_PRIME = 549793598160L;
+    private static final long[] NO_SERIALS = {-1, LAST_SERIAL + 1, Long.MIN_VALUE, Long.MAX_VALUE, WITHOUT_PRIME};
     /** 519 and 802 have one prime, and so have 2572 and 10820. */
     private static final long TWIN = 519, OTHER_TWIN = 802;
     private static final BigInteger N = Model.join(-7777777777777777776L, 1234567890123456789L);
@@ -206,11 +208,11 @@ public final class PromisesTest {
         due("prime(-1) with a modulus", y.prime(-1), BAD);
     }
 
-    /** Serials, found by search, whose first prime comes late: the counter goes up to 255. */
+    /** Serials, found by search, whose first prime comes late or not at all: the counter goes up to 255. */
     private static void primeAtHighCounters() {
         PartsAccumulator x = new PartsAccumulator();
-        long[] serials = {20501489, 12887952554L, 8594130623L, 4434283575L};
-        int[] counters = {190, 220, 230, 243};
+        long[] serials = {20501489, 12887952554L, 8594130623L, 4434283575L, WITHOUT_PRIME};
+        int[] counters = {190, 220, 230, 243, 256};
         for (int i = 0; i < serials.length; i++) {
             due("the model's counter of " + serials[i], Model.counterOf(serials[i]), counters[i]);
             due("prime(" + serials[i] + ")", x.prime(serials[i]), Model.primeOf(serials[i]));

@@ -10,7 +10,10 @@ public final class RandomRunsTest {
     private static final long[] SERIALS = {
         519, 802, 2572, 10820, 9264, 14484, 0, 1, 77, (1L << 40) - 1, 1L << 32, (1L << 32) - 1, 1L << 31, 5, 6, 7
     };
-    private static final long[] NO_SERIALS = {-1, 1L << 40, Long.MAX_VALUE, Long.MIN_VALUE, (1L << 63) + 519};
+    /** The last one has no prime. */
+    private static final long[] NO_SERIALS = {
+        -1, 1L << 40, Long.MAX_VALUE, Long.MIN_VALUE, (1L << 63) + 519, 549793598160L
+    };
 
     private final Dues dues = new Dues();
     private Random random;
