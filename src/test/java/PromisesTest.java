@@ -684,9 +684,12 @@ public final class PromisesTest {
                 due("add(" + s + ")", x.add(s), model.add(s));
             }
             due("close()", x.close(), model.close());
-            due("exclude(7) modulo " + n, x.exclude(7), model.exclude(7));
-            dueHand("after exclude(7) modulo " + n, x, model.hand, model.factor);
-            due("checkExclude(7, 1) modulo " + n, x.checkExclude(7, 1), 1);
+            // Several serials, so that the exponent c is even for some and odd for others.
+            for (long s = 7; s < 15; s++) {
+                due("exclude(" + s + ") modulo " + n, x.exclude(s), model.exclude(s));
+                dueHand("after exclude(" + s + ") modulo " + n, x, model.hand, model.factor);
+                due("checkExclude(" + s + ", 1) modulo " + n, x.checkExclude(s, 1), 1);
+            }
         }
     }
 
