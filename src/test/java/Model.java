@@ -52,12 +52,15 @@ final class Model {
         });
     }
 
-    /** The document's hash is the first word of SHA-256 over the serial and the counter, 64 bits each. */
     private static int candidate(long serial, int c) {
+        return (hash(serial, c) & 0x7fffffff) | 0x40000001;
+    }
+
+    /** The document's hash is the first word of SHA-256 over the serial and the counter, 64 bits each. */
+    static int hash(long serial, int c) {
         try {
             byte[] text = ByteBuffer.allocate(16).putLong(serial).putLong(c).array();
-            int hash = ByteBuffer.wrap(MessageDigest.getInstance("SHA-256").digest(text)).getInt();
-            return (hash & 0x7fffffff) | 0x40000001;
+            return ByteBuffer.wrap(MessageDigest.getInstance("SHA-256").digest(text)).getInt();
         } catch (NoSuchAlgorithmException e) {
             throw new IllegalStateException(e);
         }
