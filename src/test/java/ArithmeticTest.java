@@ -1,4 +1,5 @@
 import java.lang.reflect.Constructor;
+import java.lang.reflect.Field;
 import java.lang.reflect.Method;
 import java.math.BigInteger;
 import java.util.ArrayList;
@@ -6,8 +7,8 @@ import java.util.List;
 import java.util.Random;
 
 /**
- * Products modulo N of numbers whose limbs bring about the rarest carries. No run of calls of a bearable
- * length meets these, so the test looks at the class inside.
+ * What no run of calls of a bearable length meets, so that the test looks at the classes inside: products modulo N
+ * of numbers whose limbs bring about the rarest carries, and the end of the counters of a serial's prime.
  */
 public final class ArithmeticTest {
     private static final BigInteger ONE = BigInteger.ONE, TOP = ONE.shiftLeft(128);
@@ -18,7 +19,18 @@ public final class ArithmeticTest {
         for (BigInteger n : moduli()) {
             products(n);
         }
+        DUES.sentence("a counter c from 0 to 255", () -> DUES.due("how many counters", counters(), 256));
         DUES.end();
+    }
+
+    private static int counters() {
+        try {
+            Field field = Class.forName("PartsAccumulator$SerialPrimes").getDeclaredField("COUNTERS");
+            field.setAccessible(true);
+            return field.getInt(null);
+        } catch (ReflectiveOperationException e) {
+            throw new IllegalStateException(e);
+        }
     }
 
     private static List<BigInteger> moduli() {

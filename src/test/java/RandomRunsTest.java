@@ -6,13 +6,10 @@ public final class RandomRunsTest {
     private static final int RUNS = 400;
     /** The document promises 512 calls of an object; a step makes at most 4. */
     private static final int MOST_CALLS = 512, MOST_CALLS_OF_A_STEP = 4;
-    /** Pairs with one prime among them: 519 and 802, 2572 and 10820, 9264 and 14484. */
-    private static final long[] SERIALS = {
-        519, 802, 2572, 10820, 9264, 14484, 0, 1, 77, (1L << 40) - 1, 1L << 32, (1L << 32) - 1, 1L << 31, 5, 6, 7
-    };
-    /** The last one has no prime. */
-    private static final long[] NO_SERIALS = {
-        -1, 1L << 40, Long.MAX_VALUE, Long.MIN_VALUE, (1L << 63) + 519, 549793598160L
+    /** Pairs with one prime among them: 519 and 802, 2572 and 10820, 9264 and 14484; then great and small primes. */
+    private static final long[] EDGES = {
+        519, 802, 2572, 10820, 9264, 14484, 0, 1, 77, (1L << 40) - 1, 1L << 32, (1L << 32) - 1, 1L << 31, 5, 6, 7,
+        20570280, 59902071, 33562082, 14550285, 45251443
     };
 
     private final Dues dues = new Dues();
@@ -56,7 +53,7 @@ public final class RandomRunsTest {
         long[] chosen = new long[6 + random.nextInt(20)];
         for (int i = 0; i < chosen.length; i++) {
             boolean edge = random.nextInt(3) != 0;
-            chosen[i] = edge ? SERIALS[random.nextInt(SERIALS.length)] : random.nextInt(500);
+            chosen[i] = edge ? EDGES[random.nextInt(EDGES.length)] : random.nextInt(500);
         }
         return chosen;
     }
@@ -94,7 +91,7 @@ public final class RandomRunsTest {
     }
 
     private void oneStep() {
-        long s = random.nextInt(25) == 0 ? NO_SERIALS[random.nextInt(NO_SERIALS.length)] : pool[random.nextInt(pool.length)];
+        long s = random.nextInt(25) == 0 ? Case.NO_SERIALS[random.nextInt(Case.NO_SERIALS.length)] : pool[random.nextInt(pool.length)];
         int top = Math.max(model.now(), 0);
         int e = random.nextInt(20) == 0 ? random.nextInt() : random.nextInt(top + 2) - (random.nextInt(20) == 0 ? 1 : 0);
         boolean upper = random.nextBoolean();
