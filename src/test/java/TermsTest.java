@@ -125,8 +125,8 @@ public final class TermsTest extends Case {
 
     /** Serials, found by search, whose first prime comes late. */
     private static void lastCounters() {
-        long[] serials = {20501489, 12887952554L, 8594130623L, 4434283575L};
-        int[] counters = {190, 220, 230, 243};
+        long[] serials = {20501489, 12887952554L, 8594130623L, 4434283575L, 1001115361827L};
+        int[] counters = {190, 220, 230, 243, 250};
         for (int i = 0; i < serials.length; i++) {
             due("the model's counter of " + serials[i], Model.counterOf(serials[i]), counters[i]);
             due("prime(" + serials[i] + ")", new PartsAccumulator().prime(serials[i]), Model.primeOf(serials[i]));
