@@ -4,8 +4,8 @@ import java.math.BigInteger;
 abstract class Case {
     static final int NONE = -1, BAD = -2, PRESENT = -3, ABSENT = -4, CLASH = -5, FULL = -6, WRONG = -7;
     static final long SERIALS = 1L << 40, LAST_SERIAL = SERIALS - 1;
-    /** Found by search: none of its 256 candidates is a prime. */
-    static final long WITHOUT_PRIME = 549793598160L;
+    /** Found by search: none of its 256 candidates is a prime, but the next one would be. */
+    static final long WITHOUT_PRIME = 920246019197L;
     /** 5 and 519 are good serials: those behind them are 5 and 519 for who looks at too few of their bits. */
     static final long[] NO_SERIALS = {
         -1, SERIALS, Long.MIN_VALUE, Long.MAX_VALUE, WITHOUT_PRIME,

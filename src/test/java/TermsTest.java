@@ -182,6 +182,9 @@ public final class TermsTest extends Case {
 
     private static void withoutPrime() {
         due("the model's counter", Model.counterOf(WITHOUT_PRIME), 256);
+        int next = (Model.hash(WITHOUT_PRIME, 256) & 0x3ffffffe) + 0x40000001;
+        due("the counter 256 would bring a prime", BigInteger.valueOf(next).isProbablePrime(60), true);
+        due("prime(549793598160), the next prime being far", new PartsAccumulator().prime(549793598160L), BAD);
         due("prime without a modulus", new PartsAccumulator().prime(WITHOUT_PRIME), BAD);
         dueBadSerial(withPresent(5, 6), WITHOUT_PRIME);
         dueBadSerial(withModulus(N), WITHOUT_PRIME);
